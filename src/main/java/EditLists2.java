@@ -367,28 +367,31 @@ public final class EditLists2 {
             wanted = NOTHING;
             given = NOTHING;
             verb = text.takeAny();
-            return text.take(' ') && readRest(text) && text.take(';');
-        }
-
-        private boolean readRest(Text text) {
+            boolean formed = text.take(' ');
             switch (verb) {
                 case 'A':
                 case 'R':
                 case 'G':
                     number = text.takeDigits(2);
-                    return number != NONE;
+                    formed = formed && number != NONE;
+                    break;
                 case 'S':
-                    return from.readFrom(text) && text.take(' ') && readGiven(text);
+                    formed = formed && from.readFrom(text) && text.take(' ') && readGiven(text);
+                    break;
                 case 'D':
-                    return from.readFrom(text);
+                    formed = formed && from.readFrom(text);
+                    break;
                 case 'M':
-                    return from.readFrom(text) && text.take(' ') && to.readFrom(text);
+                    formed = formed && from.readFrom(text) && text.take(' ') && to.readFrom(text);
+                    break;
                 case 'C':
-                    return from.readFrom(text) && text.take(' ') && readWanted(text)
+                    formed = formed && from.readFrom(text) && text.take(' ') && readWanted(text)
                         && text.take(' ') && readGiven(text);
+                    break;
                 default:
-                    return false;
+                    formed = false;
             }
+            return formed && text.take(';');
         }
 
         private boolean readWanted(Text text) {

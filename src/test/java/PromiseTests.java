@@ -459,6 +459,8 @@ public final class PromiseTests {
         dueThat("but without its keys", x.reached(2), false);
         dueRun(x, "S a #3;", 1);
         dueThat("3", x.reached(3), true);
+        dueRun(x, "S a 1;S b 3;", 1);
+        dueThat("a number is no reference", x.reached(1) || x.reached(3), false);
         dueThrow("reached(-1)", () -> x.reached(-1));
         dueThrow("reached(40)", () -> x.reached(40));
         EditLists2 chain = new EditLists2();
