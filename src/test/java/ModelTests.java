@@ -404,6 +404,7 @@ public final class ModelTests {
             seen.merge(what, 1, Integer::sum);
         }
 
+        /** Asks far more than 512 questions: only the calls that change something are kept within that limit. */
         private String compare() {
             if (model.passed > 0) {
                 see("passed");
