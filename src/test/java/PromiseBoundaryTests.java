@@ -21,6 +21,7 @@ public final class PromiseBoundaryTests extends Checks {
         changedByNumbers();
         changedPlaces();
         changedBehindEachCall();
+        changedBehindUndoOfNone();
         changedBehindNoOtherCall();
         undoLatestMoment();
         undoMomentIsNoMore();
@@ -300,6 +301,17 @@ public final class PromiseBoundaryTests extends Checks {
         dueChanged(x);
     }
 
+    private static void changedBehindUndoOfNone() {
+        // The document's words make no difference between an undo() that answers NONE and others.
+        heading("5 .. behind the latest .. undo()");
+        Probe x = new Probe();
+        dueRun(x, "A 1;", 1);
+        due("undo", x.undo(), 1);
+        dueChanged(x, 1);
+        due("undo of none", x.undo(), -1);
+        dueChanged(x);
+    }
+
     private static void changedBehindNoOtherCall() {
         heading("5 .. and behind no other call");
         Probe x = new Probe();
@@ -572,6 +584,10 @@ public final class PromiseBoundaryTests extends Checks {
         due("none to the one that went", x.object(2, 3), 0);
         due("all to the lesser", x.object(1, 3), 6);
         dueChanged(x, 0, 2, 3, 4);
+        Probe last = behind("A 1;A 2;A 39;S a #39;S aa #2;S az #2;");
+        due("join", last.join(), 1);
+        due("of the last object", last.value(39, 0), 1);
+        due("of its last key", last.value(39, 25), 1);
         Probe none = behind("A 1;A 2;S a #1;S ak 1;S b #9;");
         due("none joined", none.join(), 0);
         due("all references stay", none.value(0, 1), 9);

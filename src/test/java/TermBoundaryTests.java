@@ -37,6 +37,7 @@ public final class TermBoundaryTests extends Checks {
         reachedRoot();
         reachedThatAreThere();
         reachedFromReached();
+        reachedByManyReferences();
         pathLengths();
         pathBeginsAtRoot();
         pathGoesOn();
@@ -338,6 +339,12 @@ public final class TermBoundaryTests extends Checks {
         dueThat("of itself", loose.reached(2), false);
         dueRun(loose, "S q #2;", 1);
         dueThat("a circle that is reached", loose.reached(1), true);
+        dueRun(loose, "D q;", 1);
+        dueThat("and is no more", loose.reached(1) || loose.reached(2), false);
+        Probe last = behind("A 39;S a #39;");
+        dueThat("the last one", last.reached(39), true);
+        dueRun(last, "D a;", 1);
+        dueThat("the last one is no more", last.reached(39), false);
         // Each object refers to the next one, so that the last one is 20 references away from the root.
         Probe chain = behind("A 20;S a #20;");
         for (int n = 19; n > 0; n--) {
@@ -349,6 +356,25 @@ public final class TermBoundaryTests extends Checks {
         dueRun(chain, "D a;", 1);
         dueThat("without its first reference", chain.reached(20), false);
         due("none of the chain", chain.drop(), 20);
+    }
+
+    private static void reachedByManyReferences() {
+        heading("REACHED .. however many REFERENCES there are to one");
+        Probe x = behind("A 1;A 2;A 3;S y #2;S ya #3;" + referToOne("", 'a', 'x') + "S y #2;");
+        dueRun(x, referToOne("a", 'a', 'z'), 1);
+        due("26 of its own and 24 of the root", x.object(1, 3), 50);
+        dueThat("itself", x.reached(1), true);
+        dueThat("the next one", x.reached(2), true);
+        dueThat("the one behind that", x.reached(3), true);
+        due("all", x.drop(), 0);
+    }
+
+    private static String referToOne(String path, char first, char last) {
+        StringBuilder text = new StringBuilder();
+        for (char key = first; key <= last; key++) {
+            text.append("S ").append(path).append(key).append(" #1;");
+        }
+        return text.toString();
     }
 
     // Terms: paths
@@ -757,6 +783,12 @@ public final class TermBoundaryTests extends Checks {
         due("a reference", reference.value(0, 0), 6);
         due("another reference", dueDone("S a #5;", "C a #6 #7;", 0).told(3), 1);
         due("passed and done", dueDone("S a 5;", "C a 4 1;C a 5 2;C a 5 3;C a 2 4;", 1).told(3), 2);
+        for (String line : LINES) {
+            Probe none = behind(LINES_START);
+            tell(none, line);
+            dueThat("no fault in " + line, none.run(false) > 0, true);
+            due("no other line is passed: " + line, none.told(3), 0);
+        }
     }
 
     private static void lineChangesByWhatItIs() {
