@@ -76,6 +76,7 @@ public final class TermBoundaryTests extends Checks {
         faultOrder();
         faultOfTheFirstLine();
         faultLeavesObjects();
+        faultLeavesNothingForTheNextText();
         unlikeThereOrNot();
         unlikeKeysOrValues();
         unlikeSigned();
@@ -1024,6 +1025,22 @@ public final class TermBoundaryTests extends Checks {
             dueRun(x, start, 4);
             dueRun(x, good, 4);
         })), false);
+    }
+
+    private static void faultLeavesNothingForTheNextText() {
+        heading("With a FAULT .. the text is empty then, and nothing of it is left for the next one");
+        String[] faulty = {"?", "A", "A 40;", "R 0;", "R 40;", "G 40;", "A 0;", "R 9;", "G 9;", "S b #40;", "S xx 1;", "D xx;", "D x;",
+            "M xx y;", "M b yy;", "M x y;", "C b #40 1;", "C b 1 #40;", "C xx 1 1;", "C x 1 1;", "C b 2 2;C b 2 2;D x;"};
+        for (String text : faulty) {
+            for (String line : LINES) {
+                Probe x = behind(LINES_START);
+                tell(x, text);
+                dueThat("a fault in " + text, x.run(false) < 0, true);
+                dueRun(x, line, behindLinesStart(line));
+                due("lines", x.told(4), 1);
+                due("passed", x.told(3), 0);
+            }
+        }
     }
 
     // Terms: UNLIKE
