@@ -12,7 +12,12 @@ import java.util.regex.Pattern;
 /** Runs of calls, drawn from fixed seeds, on the class and on a plain model of the document's words. */
 public final class ModelTests {
     private static final int RUNS = 3000;
-    private static final int CALLS = 512;
+    // The rest of an object's 512 calls is for questions.
+    private static final int CALLS = 384;
+    private static final int OBJECTS = 40;
+    private static final int KEYS = 26;
+    private static final int THROWN = Integer.MIN_VALUE;
+    private static final List<Question> QUESTIONS = questions();
 
     private ModelTests() {
     }
@@ -36,6 +41,58 @@ public final class ModelTests {
             }
         }
         System.out.println("the class and the model agree: " + seen);
+    }
+
+    /** A call, with true and false as 1 and 0. */
+    private interface Call {
+        int on(Face x);
+    }
+
+    /** A call that changes nothing. */
+    private record Question(String words, Call call) {
+        int answerOf(Face x) {
+            try {
+                return call.on(x);
+            } catch (IndexOutOfBoundsException e) {
+                // The machine's own exceptions are of classes below this one.
+                if (e.getClass() != IndexOutOfBoundsException.class) {
+                    throw new Miss(words + " threw " + e.getClass());
+                }
+                return THROWN;
+            }
+        }
+    }
+
+    private static final class Miss extends RuntimeException {
+        private static final long serialVersionUID = 1L;
+
+        Miss(String words) {
+            super(words);
+        }
+    }
+
+    /** All that can be asked, and one step beyond each end. */
+    private static List<Question> questions() {
+        List<Question> all = new ArrayList<>();
+        for (int i = -1; i <= OBJECTS; i++) {
+            int n = i;
+            all.add(new Question("changed(" + n + ")", x -> x.changed(n)));
+            all.add(new Question("reached(" + n + ")", x -> x.reached(n) ? 1 : 0));
+            for (int j = -1; j <= 4; j++) {
+                int what = j;
+                all.add(new Question("object(" + n + ", " + what + ")", x -> x.object(n, what)));
+            }
+            for (int j = -1; j <= KEYS; j++) {
+                int key = j;
+                all.add(new Question("kind(" + n + ", " + key + ")", x -> x.kind(n, key)));
+                all.add(new Question("value(" + n + ", " + key + ")", x -> x.value(n, key)));
+            }
+        }
+        for (int i = -1; i <= 5; i++) {
+            int what = i;
+            all.add(new Question("told(" + what + ")", x -> x.told(what)));
+        }
+        return all;
     }
 
     /** An object that is there: its keys with VALUES as texts ("5", "#3"), and whether it is signed. */
@@ -64,7 +121,8 @@ public final class ModelTests {
         }
     }
 
-    private static final class Model {
+    private static final class Model implements Face {
+        private static final Thing NO_THING = new Thing();
         private static final String VALUE = "(-?[0-9]{1,5}|#[0-9]{1,2})";
         private static final String PATH = "([a-z]{1,8})";
         private static final Pattern ONE = Pattern.compile("([ARG]) ([0-9]{1,2});");
@@ -114,20 +172,42 @@ public final class ModelTests {
             changed = unlike(old);
         }
 
-        int run(boolean forced, boolean dry) {
-            TreeMap<Integer, Thing> old = copy(things);
-            int answer = edit(forced);
-            if (answer < 0 || dry) {
-                answer = answer < 0 ? answer : unlike(old).size();
-                things = old;
-                text = dry ? text : "";
-                return answer;
+        @Override
+        public boolean sign(int c) {
+            if (c < 32 || c > 126 || text.length() == 300) {
+                return false;
             }
+            text += (char) c;
+            return true;
+        }
+
+        @Override
+        public int run(boolean forced) {
+            TreeMap<Integer, Thing> old = copy(things);
+            int fault = edit(forced);
             text = "";
+            if (fault < 0) {
+                things = old;
+                return fault;
+            }
             passed = passedNow;
             lines = linesNow;
             keep(old);
             return changed.size();
+        }
+
+        @Override
+        public int dry(boolean forced) {
+            TreeMap<Integer, Thing> old = copy(things);
+            int fault = edit(forced);
+            int answer = fault < 0 ? fault : unlike(old).size();
+            things = old;
+            return answer;
+        }
+
+        @Override
+        public int changed(int i) {
+            return changed.get(in(i, changed.size()));
         }
 
         private int edit(boolean forced) {
@@ -240,7 +320,8 @@ public final class ModelTests {
             }
         }
 
-        int undo() {
+        @Override
+        public int undo() {
             if (moments.isEmpty()) {
                 changed = new ArrayList<>();
                 return -1;
@@ -251,22 +332,30 @@ public final class ModelTests {
             return changed.size();
         }
 
-        TreeSet<Integer> reached() {
+        private TreeSet<Integer> reached() {
             TreeSet<Integer> all = new TreeSet<>();
-            all.add(0);
-            for (int round = 0; round < 40; round++) {
-                for (int n : new ArrayList<>(all)) {
-                    for (String v : things.get(n).keys.values()) {
-                        if (v.charAt(0) == '#' && things.containsKey(Integer.parseInt(v.substring(1)))) {
-                            all.add(Integer.parseInt(v.substring(1)));
-                        }
-                    }
-                }
-            }
+            reachFrom(0, all);
             return all;
         }
 
-        int drop() {
+        private void reachFrom(int n, TreeSet<Integer> all) {
+            if (!things.containsKey(n) || !all.add(n)) {
+                return;
+            }
+            for (String v : things.get(n).keys.values()) {
+                if (v.charAt(0) == '#') {
+                    reachFrom(Integer.parseInt(v.substring(1)), all);
+                }
+            }
+        }
+
+        @Override
+        public boolean reached(int n) {
+            return reached().contains(in(n, OBJECTS));
+        }
+
+        @Override
+        public int drop() {
             TreeMap<Integer, Thing> old = copy(things);
             TreeSet<Integer> all = reached();
             things.keySet().removeIf(n -> !all.contains(n));
@@ -274,7 +363,8 @@ public final class ModelTests {
             return old.size() - things.size();
         }
 
-        int join() {
+        @Override
+        public int join() {
             TreeMap<Integer, Thing> old = copy(things);
             boolean again = true;
             while (again) {
@@ -309,7 +399,46 @@ public final class ModelTests {
             return x.equals(y);
         }
 
-        int references(int n) {
+        @Override
+        public int kind(int n, int key) {
+            String v = told(n, key);
+            return v == null ? 0 : v.charAt(0) == '#' ? 2 : 1;
+        }
+
+        @Override
+        public int value(int n, int key) {
+            String v = told(n, key);
+            return v == null ? 0 : Integer.parseInt(v.charAt(0) == '#' ? v.substring(1) : v);
+        }
+
+        private String told(int n, int key) {
+            return thing(n).keys.get((char) ('a' + in(key, KEYS)));
+        }
+
+        private Thing thing(int n) {
+            return things.getOrDefault(in(n, OBJECTS), NO_THING);
+        }
+
+        @Override
+        public int object(int n, int what) {
+            int[] all = {things.containsKey(n) ? 1 : 0, thing(n).signed ? 1 : 0, thing(n).keys.size(), references(n)};
+            return all[in(what, all.length)];
+        }
+
+        @Override
+        public int told(int what) {
+            int[] all = {text.length(), things.size(), moments.size(), passed, lines};
+            return what >= 0 && what < all.length ? all[what] : -1;
+        }
+
+        private static int in(int i, int count) {
+            if (i < 0 || i >= count) {
+                throw new IndexOutOfBoundsException();
+            }
+            return i;
+        }
+
+        private int references(int n) {
             int count = 0;
             for (Thing thing : things.values()) {
                 for (String v : thing.keys.values()) {
@@ -324,12 +453,12 @@ public final class ModelTests {
     private static final class Trial {
         private final Random random;
         private final Map<String, Integer> seen;
-        private final EditLists2 made = new EditLists2();
+        private final Probe made = new Probe();
         private final Model model = new Model();
+        private final List<Call> calls = new ArrayList<>();
         private final StringBuilder log = new StringBuilder();
         private final int objects;
         private final int letters;
-        private int calls;
 
         Trial(int seed, Map<String, Integer> seen) {
             this.random = new Random(seed);
@@ -338,58 +467,64 @@ public final class ModelTests {
             this.letters = 1 + random.nextInt(seed % 7 == 0 ? 26 : 3);
         }
 
+        /** What went wrong, behind the calls before it; or null. */
         String miss() {
-            while (calls < CALLS) {
-                String miss = step();
-                if (miss == null) {
-                    miss = compare();
+            try {
+                if (random.nextBoolean()) {
+                    tell(start());
+                    call("run(false)", x -> x.run(false), "done");
                 }
-                if (miss != null) {
-                    return log + miss;
+                while (calls.size() < CALLS) {
+                    step();
+                    if (random.nextInt(8) == 0) {
+                        compare();
+                    }
                 }
+                compare();
+            } catch (Miss miss) {
+                return log + miss.getMessage();
             }
             return null;
         }
 
-        private String step() {
+        private void step() {
             int draw = random.nextInt(20);
             if (draw < 2) {
-                return answer("undo()", made.undo(), model.undo(), "undone");
-            }
-            if (draw < 3) {
-                return answer("drop()", made.drop(), model.drop(), "dropped");
-            }
-            if (draw < 5) {
-                return answer("join()", made.join(), model.join(), "joined");
-            }
-            String text = text();
-            for (int i = 0; i < text.length() && calls < CALLS; i++) {
-                calls++;
-                boolean room = model.text.length() < 300;
-                if (made.sign(text.charAt(i)) != room) {
-                    return "sign at " + model.text.length();
+                call("undo()", Face::undo, "undone");
+            } else if (draw < 3) {
+                call("drop()", Face::drop, "dropped");
+            } else if (draw < 5) {
+                call("join()", Face::join, "joined");
+            } else {
+                tell(text());
+                boolean forced = random.nextInt(3) == 0;
+                int draws = random.nextInt(6);
+                if (draws < 2) {
+                    call("dry(" + forced + ")", x -> x.dry(forced), "done");
                 }
-                if (!room) {
-                    see("full text");
-                    break;
-                }
-                model.text += text.charAt(i);
-            }
-            boolean forced = random.nextInt(3) == 0;
-            log.append("text ").append(model.text).append('\n');
-            int draws = random.nextInt(6);
-            if (draws < 2) {
-                String miss = answer("dry " + forced, made.dry(forced), model.run(forced, true), "done");
-                if (miss != null || draws == 0) {
-                    return miss;
+                if (draws > 0) {
+                    call("run(" + forced + ")", x -> x.run(forced), "done");
                 }
             }
-            return answer("run " + forced, made.run(forced), model.run(forced, false), "done");
         }
 
-        private String answer(String call, int got, int due, String what) {
-            calls++;
-            log.append(call).append(" = ").append(due).append('\n');
+        private void tell(String text) {
+            log.append("text ").append(text).append('\n');
+            for (int i = 0; i < text.length() && calls.size() < CALLS; i++) {
+                char c = text.charAt(i);
+                if (both("sign(" + c + ")", x -> x.sign(c) ? 1 : 0) == 0) {
+                    see("full text");
+                    return;
+                }
+            }
+        }
+
+        private void call(String words, Call call, String what) {
+            if (calls.size() >= CALLS) {
+                return;
+            }
+            int due = both(words, call);
+            log.append(words).append(" = ").append(due).append('\n');
             if (due < -1) {
                 see("fault " + (-1 - due) % 10);
             } else if (due == -1) {
@@ -397,70 +532,57 @@ public final class ModelTests {
             } else if (due > 0) {
                 see(what);
             }
-            return got == due ? null : call + " answered " + got + ", due is " + due;
+        }
+
+        private int both(String words, Call call) {
+            calls.add(call);
+            int due = call.on(model);
+            dueAnswer(words, call.on(made), due);
+            return due;
+        }
+
+        private static void dueAnswer(String words, int got, int due) {
+            if (got != due) {
+                throw new Miss(words + " answered " + got + ", due is " + due);
+            }
         }
 
         private void see(String what) {
             seen.merge(what, 1, Integer::sum);
         }
 
-        /** Asks far more than 512 questions: only the calls that change something are kept within that limit. */
-        private String compare() {
+        /** Asks everything, of as many new objects behind the same calls as it takes to stay within 512 each. */
+        private void compare() {
             if (model.passed > 0) {
                 see("passed");
             }
             if (model.moments.size() == 16) {
                 see("full moments");
             }
-            int[] told = {model.text.length(), model.things.size(), model.moments.size(), model.passed, model.lines};
-            for (int i = 0; i < told.length; i++) {
-                if (made.told(i) != told[i]) {
-                    return "told(" + i + ") answered " + made.told(i) + ", due is " + told[i];
+            Probe x = again();
+            for (Question question : QUESTIONS) {
+                if (x.callsLeft() == 0) {
+                    x = again();
                 }
+                dueAnswer(question.words, question.answerOf(x), question.answerOf(model));
             }
-            for (int i = 0; i <= 40; i++) {
-                int due = i < model.changed.size() ? model.changed.get(i) : -1;
-                int got;
-                try {
-                    got = made.changed(i);
-                } catch (IndexOutOfBoundsException e) {
-                    got = -1;
-                }
-                if (got != due) {
-                    return "changed(" + i + ") answered " + got + ", due is " + due;
-                }
-            }
-            TreeSet<Integer> reached = model.reached();
-            for (int n = 0; n < 40; n++) {
-                if (made.reached(n) != reached.contains(n)) {
-                    return "reached(" + n + ")";
-                }
-                String miss = compareObject(n);
-                if (miss != null) {
-                    return miss;
-                }
-            }
-            return null;
         }
 
-        private String compareObject(int n) {
-            Thing thing = model.things.get(n);
-            Thing shown = thing == null ? new Thing() : thing;
-            int[] due = {thing == null ? 0 : 1, shown.signed ? 1 : 0, shown.keys.size(), model.references(n)};
-            for (int what = 0; what < due.length; what++) {
-                if (made.object(n, what) != due[what]) {
-                    return "object(" + n + ", " + what + ") answered " + made.object(n, what) + ", due is " + due[what];
-                }
+        private Probe again() {
+            Probe x = new Probe();
+            for (Call call : calls) {
+                call.on(x);
             }
-            for (int key = 0; key < 26; key++) {
-                String v = shown.keys.get((char) ('a' + key));
-                int kind = v == null ? 0 : v.charAt(0) == '#' ? 2 : 1;
-                int value = v == null ? 0 : Integer.parseInt(kind == 2 ? v.substring(1) : v);
-                if (made.kind(n, key) != kind || made.value(n, key) != value) {
-                    return "key " + key + " of " + n + " is " + made.kind(n, key) + " " + made.value(n, key) + ", due is " + v;
-                }
+            return x;
+        }
+
+        /** Objects to which the root refers: drawn line by line they are too seldom many enough to be alike. */
+        private String start() {
+            StringBuilder all = new StringBuilder();
+            for (int n = 1; n < objects && n <= letters && n < 9; n++) {
+                all.append("A ").append(n).append(";S ").append((char) ('a' + n - 1)).append(" #").append(n).append(';');
             }
-            return null;
+            return all.toString();
         }
 
         private String text() {
@@ -490,35 +612,66 @@ public final class ModelTests {
         }
 
         private String line() {
-            switch (random.nextInt(14)) {
-                case 0:
-                case 1:
-                    return "A " + missingNumber() + ";";
-                case 2:
-                    return "R " + number() + ";";
-                case 3:
-                    return random.nextInt(3) == 0 ? "G " + number() + ";" : "S " + path() + " " + value() + ";";
-                case 4:
-                    return "D " + path() + ";";
-                case 5:
-                case 6:
-                    return "M " + path() + " " + path() + ";";
-                case 7:
-                case 8:
-                    return "C " + path() + " " + value() + " " + value() + ";";
+            switch (verb()) {
+                case 'A':
+                    return "A " + number(false) + ";";
+                case 'R':
+                    return "R " + number(true) + ";";
+                case 'G':
+                    return "G " + number(true) + ";";
+                case 'D':
+                    return "D " + keyPath() + ";";
+                case 'M':
+                    return "M " + keyPath() + " " + path() + ";";
+                case 'C':
+                    String path = keyPath();
+                    return "C " + path + " " + wanted(path) + " " + value() + ";";
                 default:
-                    return "S " + path() + " " + value() + ";";
+                    String to = path();
+                    return "S " + to + " " + (random.nextInt(6) == 0 ? itself(to) : value()) + ";";
             }
         }
 
-        private String missingNumber() {
-            for (int i = 0; i < 5; i++) {
-                String n = number();
-                if (!model.things.containsKey(Integer.parseInt(n))) {
-                    return n;
-                }
+        /** Mostly one that can be done as things are before the text. */
+        private char verb() {
+            char verb = "AAARGDDMMMCCCSSSSSSSSS".charAt(random.nextInt(22));
+            boolean hopeless = verb == 'A' ? model.things.size() >= objects
+                : verb == 'R' || verb == 'G' ? model.things.size() == 1
+                : verb != 'S' && model.things.get(0).keys.isEmpty();
+            return hopeless && random.nextInt(8) > 0 ? 'S' : verb;
+        }
+
+        /** Mostly of an object that is there, or of one that is not. */
+        private String number(boolean there) {
+            String n = number();
+            for (int i = 0; i < 20 && model.things.containsKey(Integer.parseInt(n)) != there; i++) {
+                n = number();
             }
-            return number();
+            return n;
+        }
+
+        /** A reference to the object to which the path leads. */
+        private String itself(String path) {
+            try {
+                Thing thing = model.follow(path);
+                for (int n : model.things.keySet()) {
+                    if (model.things.get(n) == thing) {
+                        return "#" + n;
+                    }
+                }
+                return value();
+            } catch (Fault fault) {
+                return value();
+            }
+        }
+
+        private String wanted(String path) {
+            try {
+                String v = model.follow(path).keys.get(Model.last(path));
+                return v == null || random.nextInt(3) == 0 ? value() : v;
+            } catch (Fault fault) {
+                return value();
+            }
         }
 
         private String number() {
@@ -534,18 +687,28 @@ public final class ModelTests {
                 return "#" + number();
             }
             if (random.nextInt(10) == 0) {
-                return (random.nextBoolean() ? "-" : "") + random.nextInt(100000);
+                return (random.nextBoolean() ? "-" : "") + random.nextInt(random.nextInt(10) == 0 ? 1000000 : 100000);
             }
             return (random.nextInt(3) == 0 ? "-" : "") + (random.nextInt(4) == 0 ? "00" : "") + random.nextInt(2);
         }
 
-        /** Mostly a path that can go on as things are before the text. */
+        /** Mostly a path to a key that is there. */
+        private String keyPath() {
+            return pathTo(random.nextInt(8) > 0);
+        }
+
         private String path() {
+            return pathTo(random.nextBoolean());
+        }
+
+        /** Mostly a path that can go on as things are before the text. */
+        private String pathTo(boolean keyIsThere) {
             StringBuilder path = new StringBuilder();
             Thing thing = model.things.get(0);
-            int most = random.nextInt(50) == 0 ? 9 : 1 + random.nextInt(4);
+            boolean far = random.nextInt(20) == 0;
+            int most = far ? 8 + random.nextInt(8) / 7 : 1 + random.nextInt(4);
             while (path.length() < most - 1) {
-                char c = letter();
+                char c = far ? keyOf(thing) : letter();
                 String v = thing.keys.get(c);
                 Thing next = v != null && v.charAt(0) == '#' ? model.things.get(Integer.parseInt(v.substring(1))) : null;
                 if (next == null) {
@@ -557,10 +720,16 @@ public final class ModelTests {
                 path.append(c);
                 thing = next;
             }
-            if (!thing.keys.isEmpty() && random.nextBoolean()) {
-                return path.append(new ArrayList<>(thing.keys.keySet()).get(random.nextInt(thing.keys.size()))).toString();
+            if (!thing.keys.isEmpty() && keyIsThere) {
+                return path.append(keyOf(thing)).toString();
             }
-            return path.append(letter()).toString();
+            // The letter by which the path came here is a key that is there.
+            return keyIsThere && path.length() > 0 ? path.toString() : path.append(letter()).toString();
+        }
+
+        private char keyOf(Thing thing) {
+            List<Character> keys = new ArrayList<>(thing.keys.keySet());
+            return keys.isEmpty() ? letter() : keys.get(random.nextInt(keys.size()));
         }
 
         private char letter() {

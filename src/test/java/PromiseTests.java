@@ -23,6 +23,7 @@ public final class PromiseTests extends Checks {
         object();
         told();
         wrongIndexesChangeNothing();
+        readme();
         end();
     }
 
@@ -552,5 +553,25 @@ public final class PromiseTests extends Checks {
         due("lines", x.told(4), 3);
         dueChanged(x, 0, 1);
         due("text is done", x.run(false), 1);
+    }
+
+    private static void readme() {
+        heading("README.md's example");
+        Probe lists = new Probe();
+        tell(lists, "A 1; S a #1; S ab 5;");
+        due("dry", lists.dry(false), 2);
+        due("run", lists.run(false), 2);
+        due("changed", lists.changed(1), 1);
+        due("value", lists.value(1, 1), 5);
+        tell(lists, "D a; D c;");
+        due("run with a fault", lists.run(false), -16);
+        due("kind", lists.kind(0, 0), 2);
+        tell(lists, "D a;");
+        due("run", lists.run(false), 1);
+        due("drop", lists.drop(), 1);
+        due("told", lists.told(1), 1);
+        due("undo", lists.undo(), 1);
+        due("undo", lists.undo(), 1);
+        due("value behind undo", lists.value(0, 0), 1);
     }
 }

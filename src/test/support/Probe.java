@@ -1,66 +1,78 @@
 /** An EditLists2 whose calls are counted, since the document promises nothing behind the 512th. */
-final class Probe {
+final class Probe implements Face {
     static final int CALLS = 512;
 
     private final EditLists2 lists = new EditLists2();
     private int calls;
 
-    boolean sign(int c) {
+    @Override
+    public boolean sign(int c) {
         count();
         return lists.sign(c);
     }
 
-    int run(boolean forced) {
+    @Override
+    public int run(boolean forced) {
         count();
         return lists.run(forced);
     }
 
-    int dry(boolean forced) {
+    @Override
+    public int dry(boolean forced) {
         count();
         return lists.dry(forced);
     }
 
-    int changed(int i) {
+    @Override
+    public int changed(int i) {
         count();
         return lists.changed(i);
     }
 
-    int undo() {
+    @Override
+    public int undo() {
         count();
         return lists.undo();
     }
 
-    int drop() {
+    @Override
+    public int drop() {
         count();
         return lists.drop();
     }
 
-    int join() {
+    @Override
+    public int join() {
         count();
         return lists.join();
     }
 
-    boolean reached(int n) {
+    @Override
+    public boolean reached(int n) {
         count();
         return lists.reached(n);
     }
 
-    int kind(int n, int key) {
+    @Override
+    public int kind(int n, int key) {
         count();
         return lists.kind(n, key);
     }
 
-    int value(int n, int key) {
+    @Override
+    public int value(int n, int key) {
         count();
         return lists.value(n, key);
     }
 
-    int object(int n, int what) {
+    @Override
+    public int object(int n, int what) {
         count();
         return lists.object(n, what);
     }
 
-    int told(int what) {
+    @Override
+    public int told(int what) {
         count();
         return lists.told(what);
     }
